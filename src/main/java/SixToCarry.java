@@ -667,14 +667,10 @@ public final class SixToCarry {
             }
         }
 
-        /** The sign at which the reader is can't stand there. */
+        /** The sign at which the reader is can't stand there; the first such place counts. */
         void refuse() {
-            refuseAt(place);
-        }
-
-        private void refuseAt(int p) {
             if (fault < 0) {
-                fault = p;
+                fault = place;
             }
         }
 
@@ -689,7 +685,7 @@ public final class SixToCarry {
             if (digits == 0) {
                 refuse();
             } else if (value < least || value > most) {
-                refuseAt(place - 1);
+                fault = place - 1;
             }
             return value;
         }
@@ -850,7 +846,9 @@ public final class SixToCarry {
             } else if (sign == '(' && depth < MOST_BRACKETS) {
                 text.skip();
                 readExpression(text, depth + 1);
-                text.require(')');
+                if (!text.passes(')')) {
+                    text.refuse();
+                }
             } else {
                 readName(text, sign);
             }
