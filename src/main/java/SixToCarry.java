@@ -1026,17 +1026,17 @@ public final class SixToCarry {
         }
 
         int weightOf(int those) {
-            int sum = 0;
-            for (int s = 0; s < number; s++) {
-                sum += (those >> s & 1) * heavy[s];
-            }
-            return sum;
+            return sumOf(heavy, those);
         }
 
         int harmOf(int those) {
+            return sumOf(harm, those);
+        }
+
+        private int sumOf(int[] each, int those) {
             int sum = 0;
-            for (int s = 0; s < number; s++) {
-                sum += (those >> s & 1) * harm[s];
+            for (int s = 0; s < number && s < each.length; s++) {
+                sum += (those >> s & 1) * each[s];
             }
             return sum;
         }
