@@ -730,7 +730,7 @@ public final class SixToCarry {
         private final int[] named = new int[7];
         private int size;
 
-        /** What it tells of a BEARER: its own s, t, h; x, n of those that carry; c, i of the place. */
+        /** What it tells of a BEARER: its own s, t, h and number i; x, n of those that carry; c of the place. */
         int tell(int s, int t, int h, int x, int n, int c, int i) {
             if (size == 0) {
                 return within(s - t / 3 - (x - h), 0, MOST_WORTH);
@@ -971,7 +971,7 @@ public final class SixToCarry {
             int sum = 0;
             for (int b = 0; b < number; b++) {
                 if ((team >> b & 1) != 0) {
-                    sum += rule.tell(strength[b], state.tired[b], height[b], tallest, many, steep, state.at);
+                    sum += rule.tell(strength[b], state.tired[b], height[b], tallest, many, steep, b);
                 }
             }
             return sum;
@@ -980,7 +980,7 @@ public final class SixToCarry {
         /** What the rule tells of one BEARER of a team. */
         int worth(Rule rule, int bearer, int team, int tired, int at) {
             return rule.tell(strength[bearer], tired, height[bearer], tallestOf(team),
-                    Integer.bitCount(team), way.steepAt(at), at);
+                    Integer.bitCount(team), way.steepAt(at), bearer);
         }
 
         private int tallestOf(int team) {

@@ -63,7 +63,7 @@ public final class ChanceTest {
         Check.due("the same", x, Check.text(x, "s").law(), 0, "1 1");
         Check.due("from none", x, Check.text(x, "99").law(), 11, "12 1");
         Check.due("from the first", x, Check.text(x, "5").law(), -1, "0 1");
-        Check.due("from the last", x, Check.text(x, "50*(i<3)").law(), 2, "3 1");
+        Check.due("from the last", x, Check.text(x, "50*(t<3)").law(), 2, "3 1");
         Check.due("the text is read", x.count(14), 0);
         Check.due("THE RULE stays", x.force(), 63);
         Check.rule(x, "99");

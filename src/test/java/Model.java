@@ -381,7 +381,7 @@ final class Model {
         for (int b : team) {
             tallest = Math.max(tallest, bearers.get(b)[1]);
         }
-        int[] named = {bearers.get(bearer)[0], tired, bearers.get(bearer)[1], tallest, team.size(), steepAt(at), at};
+        int[] named = {bearers.get(bearer)[0], tired, bearers.get(bearer)[1], tallest, team.size(), steepAt(at), bearer};
         return Math.max(0, Math.min(99, value(by, named)));
     }
 

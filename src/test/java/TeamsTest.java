@@ -27,9 +27,9 @@ public final class TeamsTest {
         Check.rule(x, "0");
         Check.due("of no force", x, x.team(2), 0, "3");
         Check.rule(x, "n*10+c+i");
-        Check.due("by how many they are", x, x.team(2), 50, "3");
+        Check.due("by how many they are, and by their numbers", x, x.team(2), 57, "24");
         x.step();
-        Check.due("on the hill", x, x.team(2), 42, "3");
+        Check.due("on the hill", x, x.team(2), 47, "24");
         SixToCarry y = Check.funeral("5", "1,1;1,1;1,1;1,1;1,1;1,1;9,1;8,1", "");
         Check.due("six of eight", y, y.team(6), 21, "207");
         Check.due("seven can't", y.team(7), -1);
@@ -118,8 +118,8 @@ public final class TeamsTest {
         x.step();
         Check.due("7: in four", x, x.rest(0), 4, "30");
         Check.rule(x, "s+t+x+10*n+i");
-        Check.due("if it alone carried here", x, x.rest(0), 4, "45");
-        Check.due("the other one", x, x.rest(1), 4, "42");
+        Check.due("if it alone carried here", x, x.rest(0), 4, "42");
+        Check.due("the other one", x, x.rest(1), 4, "40");
     }
 
     private static void slant() {

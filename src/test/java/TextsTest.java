@@ -237,7 +237,7 @@ public final class TextsTest {
         worth("x", 8);
         worth("n", 2);
         worth("c", 4);
-        worth("i", 1);
+        worth("i", 0);
         worth("007", 7);
         worth("999", 99);
         worth("0-5", 0);
@@ -318,7 +318,8 @@ public final class TextsTest {
         x.step();
         Check.due("tired", x.bearer(0, 2), 3);
         Check.rule(x, "10*c+i+n");
-        Check.due("on the hill", x.bearer(0, 4), 3);
+        Check.due("on the hill", x.bearer(0, 4), 2);
+        Check.due("the next one on the hill", x.bearer(1, 4), 3);
         int[][] wrong = {{2, 0}, {-1, 0}, {0, 5}, {0, -1}, {Integer.MAX_VALUE, 0}, {0, Integer.MIN_VALUE}};
         for (int[] w : wrong) {
             Check.throwsNoSuch("bearer(" + w[0] + ", " + w[1] + ")", () -> x.bearer(w[0], w[1]));
