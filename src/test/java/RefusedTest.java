@@ -9,30 +9,42 @@ public final class RefusedTest {
     /** Ways to come to a state in which calls are tried; each ends with a ROW and a text. */
     private static final String[][] STATES = {
         {"sign 959524152"},
-        {"way '1234'", "bearers '30,5;20,9;25,2'", "sayings '10+3ab;8-2a;5+1c'", "rule 's-t-c+i'", "old 3 2", "claim 1 2 1",
-            "take 0", "take 1", "say 0", "step", "keep 0", "take 2", "seventh 2", "keep 1", "step", "load 77", "force",
+        {"way '1234'", "bearers '30,5;20,9;25,2'", "sayings '10+3ab;8-2a;5+1c'", "rule 's-t-c+i'", "old 3 2",
+            "claim 1 2 1", "take 0", "take 1", "say 0", "step", "keep 0", "take 2", "seventh 2", "keep 1", "step",
+            "load 77", "force", "sign 959524152"},
+        {"way '12'", "bearers '30,5;20,9'", "sayings '10+3ab;8-2a'", "keep 1", "take 0", "2 x step", "force",
             "sign 959524152"},
-        {"way '12'", "bearers '30,5;20,9'", "sayings '10+3ab;8-2a'", "keep 1", "take 0", "2 x step", "force", "sign 959524152"},
-        {"way '12'", "bearers '30,5;20,9'", "sayings '10+3ab;8-2a'", "keep 1", "take 0", "step", "say 1", "leave 0", "force",
-            "sign 959524152"},
+        {"way '12'", "bearers '30,5;20,9'", "sayings '10+3ab;8-2a'", "keep 1", "take 0", "step", "say 1", "leave 0",
+            "force", "sign 959524152"},
         {"way '123456789012'", "bearers '9,1;9,2;9,3;9,4;9,5;9,6;9,7;9,8'",
-            "sayings '1-1a;2-1a;3-1a;4-1a;5+1a;6+1a;7+1;8+1a'", "load 999", "keep 0", "take 0", "take 1", "take 2", "take 3", "take 4",
-            "take 5", "seventh 3", "seventh 0", "walk 's0>s1>s2>s3>s4>' = 10", "say 5", "seventh 1", "seventh 0", "seventh 1",
-            "seventh 0", "8 x old 0 0", "16 x claim 0 1 1", "keep 1", "force", "20 x sign 959524152"},
+            "sayings '1-1a;2-1a;3-1a;4-1a;5+1a;6+1a;7+1;8+1a'", "load 999", "keep 0", "take 0", "take 1", "take 2",
+            "take 3", "take 4", "take 5", "seventh 3", "seventh 0", "walk 's0>s1>s2>s3>s4>' = 10", "say 5",
+            "seventh 1", "seventh 0", "seventh 1", "seventh 0", "8 x old 0 0", "16 x claim 0 1 1", "keep 1",
+            "force", "20 x sign 959524152"},
     };
-    private static final String[] READERS = {"way", "bearers", "sayings", "rule", "walk", "law"};
-    private static final String[] WRONG_TEXTS = {"x", "1x", "1,1;0", "1+1;0", "s+", "t0x", ">x", "(((((1", "1,1;1,1;1,0", "1+1b;1+1ba",
-        "1111111111111", "s+s+s+s+s+s+s+s+s+s+s+s+s+s+s+s+s+s+s+s+s", ">>>>>>>>>>>>>>>>>>>>>>>>>>>>>>>>>>>>>>>>>>>>>>>>>>>>>>>>>>>>>"};
-    private static final String[] QUESTIONS = {"ahead 0", "ahead 5", "first", "bears", "hush", "which", "could", "team 1", "team 2",
-        "fewest", "change", "props", "rest 0", "slant", "cover 0", "cover 3", "lighter 0", "secret 0", "secret 1", "best", "worlds",
-        "sure", "ask", "widow 0 0", "widow 1 1", "believe", "slips 3", "slips 10", "rests 5", "years 5 60", "years 605 9", "force",
-        "count 3", "row 0", "bearer 0 4", "saying 0 5"};
-    /** For each a number of arguments: these are tried in each place, so that most calls are refused. */
-    private static final String[] WITH_NUMBERS = {"end 1", "load 1", "sheet 4", "take 1", "leave 1", "seventh 1", "say 1", "ahead 1",
-        "team 1", "rest 1", "cover 1", "lighter 1", "secret 1", "old 2", "widow 2", "claim 3", "slips 1", "rests 1", "years 2",
-        "keep 1", "again 1", "count 1", "row 1", "bearer 2", "saying 2"};
-    private static final int[] NUMBERS = {0, 1, 2, 3, 4, 5, 7, 8, 12, 13, 61, 80, 81, 127, 128, 161, 256, 1000, -1, -161,
-        Integer.MAX_VALUE, Integer.MIN_VALUE};
+    private static final String[] READERS = {
+        "way", "bearers", "sayings", "rule", "walk", "law",
+    };
+    private static final String[] WRONG_TEXTS = {
+        "x", "1x", "1,1;0", "1+1;0", "s+", "t0x", ">x", "(((((1", "1,1;1,1;1,0", "1+1b;1+1ba", "1111111111111",
+        "s+s+s+s+s+s+s+s+s+s+s+s+s+s+s+s+s+s+s+s+s", ">>>>>>>>>>>>>>>>>>>>>>>>>>>>>>>>>>>>>>>>>>>>>>>>>>>>>>>>>>>>>",
+    };
+    private static final String[] QUESTIONS = {
+        "ahead 0", "ahead 5", "first", "bears", "hush", "which", "could", "team 1", "team 2", "fewest", "change",
+        "props", "rest 0", "slant", "cover 0", "cover 3", "lighter 0", "secret 0", "secret 1", "best", "worlds",
+        "sure", "ask", "widow 0 0", "widow 1 1", "believe", "slips 3", "slips 10", "rests 5", "years 5 60",
+        "years 605 9", "force", "count 3", "row 0", "bearer 0 4", "saying 0 5",
+    };
+    /** Calls, each with how many numbers it takes: many are tried in each place, most of them such as are refused. */
+    private static final String[] WITH_NUMBERS = {
+        "end 1", "load 1", "sheet 4", "take 1", "leave 1", "seventh 1", "say 1", "ahead 1", "team 1", "rest 1",
+        "cover 1", "lighter 1", "secret 1", "old 2", "widow 2", "claim 3", "slips 1", "rests 1", "years 2",
+        "keep 1", "again 1", "count 1", "row 1", "bearer 2", "saying 2",
+    };
+    private static final int[] NUMBERS = {
+        0, 1, 2, 3, 4, 5, 7, 8, 12, 13, 61, 80, 81, 127, 128, 161, 256, 1000, -1, -161,
+        Integer.MAX_VALUE, Integer.MIN_VALUE,
+    };
 
     private static int refusals;
 
@@ -98,7 +110,8 @@ public final class RefusedTest {
                 }
                 SixToCarry x = made(state);
                 String answer = Runs.answer(x, name, numbers, null);
-                boolean falseOne = (name.equals("end") || name.equals("keep") || name.equals("again")) && answer.equals("0");
+                boolean falseOne = answer.equals("0")
+                        && (name.equals("end") || name.equals("keep") || name.equals("again"));
                 if (answer.startsWith("-") || answer.equals("throws") || falseOne) {
                     alike("state " + state + ", " + new Drawn.Call(name, numbers) + " = " + answer, x, made(state), true);
                 }
@@ -124,7 +137,8 @@ public final class RefusedTest {
     }
 
     private static void without(int state) {
-        for (String name : new String[] {"step", "undo", "sign", "first", "bears", "hush", "fewest", "change", "slant", "ask"}) {
+        for (String name : new String[] {"step", "undo", "sign", "first", "bears", "hush", "fewest", "change", "slant",
+            "ask"}) {
             SixToCarry x = made(state);
             String answer = Runs.answer(x, name, new int[] {825373492}, null);
             if (answer.startsWith("-")) {
@@ -145,7 +159,8 @@ public final class RefusedTest {
     /** All that is hidden, brought to light: THE TEXT, THE RULE, STEEP, what can be undone, what is kept. */
     private static String later(SixToCarry x) {
         StringBuilder all = new StringBuilder();
-        all.append(x.count(14)).append(' ').append(x.worlds()).append(' ').append(x.believe()).append(' ').append(x.row(0));
+        all.append(x.count(14)).append(' ').append(x.worlds()).append(' ').append(x.believe()).append(' ');
+        all.append(x.row(0));
         for (int left = x.count(12); left >= 0; left--) {
             brief(x, all);
             all.append(x.undo());
@@ -158,7 +173,8 @@ public final class RefusedTest {
         for (int k = 0; k < 5; k++) {
             all.append(x.step()).append(' ').append(x.force()).append(' ').append(x.row(0)).append(' ');
         }
-        all.append(x.walk()).append(' ').append(x.sign(0)).append(' ').append(x.end(0)).append(' ').append(x.sign(959524152));
+        all.append(x.walk()).append(' ').append(x.sign(0)).append(' ').append(x.end(0)).append(' ');
+        all.append(x.sign(959524152)).append(' ');
         return all.append(x.way()).toString();
     }
 
