@@ -724,6 +724,11 @@ public final class SixToCarry {
         private static final int NAME = 1000;
         private static final int SIGN = 2000;
         private static final int NEGATE = SIGN;
+        /** Signs that join, by how much they bind; a thing is joined no more. */
+        private static final int COMPARISON = 0;
+        private static final int SUM = 1;
+        private static final int PRODUCT = 2;
+        private static final int THING = 3;
 
         private final int[] steps = new int[MOST_SIGNS];
         private final int[] stack = new int[MOST_SIGNS];
@@ -794,44 +799,41 @@ public final class SixToCarry {
             size = 0;
             text.open(MOST_SIGNS);
             if (text.size() > 0) {
-                readExpression(text, 0);
+                readJoined(text, COMPARISON, 0);
             }
             return text.close();
         }
 
-        private void readExpression(Text text, int depth) {
-            readSum(text, depth);
-            int sign = text.peek();
-            if (sign == '<' || sign == '>' || sign == '=') {
-                text.skip();
-                readSum(text, depth);
-                add(SIGN + sign);
-            }
-        }
-
-        private void readSum(Text text, int depth) {
-            readProduct(text, depth);
-            for (int n = 0; n < MOST_SIGNS; n++) {
-                int sign = text.peek();
-                if (sign != '+' && sign != '-') {
-                    return;
-                }
-                text.skip();
-                readProduct(text, depth);
-                add(SIGN + sign);
-            }
-        }
-
-        private void readProduct(Text text, int depth) {
-            readThing(text, depth);
-            for (int n = 0; n < MOST_SIGNS; n++) {
-                int sign = text.peek();
-                if (sign != '*' && sign != '/') {
-                    return;
-                }
-                text.skip();
+        /** What is joined by signs of a level has parts joined by those that bind more; the last level is a thing. */
+        private void readJoined(Text text, int level, int depth) {
+            if (level >= THING) {
                 readThing(text, depth);
+                return;
+            }
+            readJoined(text, level + 1, depth);
+            int most = level == COMPARISON ? 1 : MOST_SIGNS;
+            for (int n = 0; n < most && levelOf(text.peek()) == level; n++) {
+                int sign = text.peek();
+                text.skip();
+                readJoined(text, level + 1, depth);
                 add(SIGN + sign);
+            }
+        }
+
+        private static int levelOf(int sign) {
+            switch (sign) {
+                case '<':
+                case '>':
+                case '=':
+                    return COMPARISON;
+                case '+':
+                case '-':
+                    return SUM;
+                case '*':
+                case '/':
+                    return PRODUCT;
+                default:
+                    return THING;
             }
         }
 
@@ -845,10 +847,8 @@ public final class SixToCarry {
                 add(text.readNumber(3, 0, NAME - 1));
             } else if (sign == '(' && depth < MOST_BRACKETS) {
                 text.skip();
-                readExpression(text, depth + 1);
-                if (!text.passes(')')) {
-                    text.refuse();
-                }
+                readJoined(text, COMPARISON, depth + 1);
+                text.require(')');
             } else {
                 readName(text, sign);
             }

@@ -162,6 +162,11 @@ final class Model {
         return 1;
     }
 
+    /** THE TEXT is this one alone. */
+    void text(String t) {
+        text = t;
+    }
+
     private String taken() {
         String t = text;
         text = "";
